@@ -198,7 +198,7 @@ public final class TextsTest {
         for (int place = 0; place < text.length(); place++) {
             FiveShogi x = new FiveShogi();
             for (char sign = 0; sign < 300; sign++) {
-                if (sign % 100 == 0) {
+                if (sign % 20 == 0) {
                     x = new FiveShogi();
                 }
                 Setup.type(x, text.substring(0, place));

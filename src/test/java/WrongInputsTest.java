@@ -11,24 +11,24 @@ public final class WrongInputsTest {
     };
 
     public static void main(String[] args) {
-        in(new FiveShogi());
-        FiveShogi empty = new FiveShogi();
-        empty.clearAll();
-        in(empty);
-        in(Setup.of("k . p . . . . . S . P . r . . . . . . . . . B . K", 1, "GSBRPgsbrp"));
+        for (int far : FAR) {
+            in(new FiveShogi(), far);
+            FiveShogi empty = new FiveShogi();
+            empty.clearAll();
+            in(empty, far);
+            in(Setup.of("k . p . . . . . S . P . r . . . . . . . . . B . K", 1, "GSBRPgsbrp"), far);
+        }
         Due.end();
     }
 
-    private static void in(FiveShogi x) {
+    private static void in(FiveShogi x, int far) {
         int history = x.total(12);
         int men = x.total(1);
         int plays = x.total(7);
         int hands = x.total(2) + x.total(3);
-        for (int far : FAR) {
-            squares(x, far);
-            sidesAndKinds(x, far);
-            numbers(x, far);
-        }
+        squares(x, far);
+        sidesAndKinds(x, far);
+        numbers(x, far);
         Due.due("history", x.total(12), history);
         Due.due("men", x.total(1), men);
         Due.due("plays", x.total(7), plays);
