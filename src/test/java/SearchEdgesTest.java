@@ -12,6 +12,7 @@ public final class SearchEdgesTest {
         promise24OnePlay();
         promise24NoPlays();
         promise24AllDrops();
+        promise24VeryMany();
         promise24OutOfRange();
         promise25EachKindOnAnEmptyBoard();
         promise25InCheck();
@@ -99,6 +100,29 @@ public final class SearchEdgesTest {
             Due.due("playAt(120)", x.playAt(120), NONE);
             Due.due("total(7)", x.total(7), 120);
         }
+    }
+
+    /** "NONE if there are not so many": 160 plays, as many as a search for such positions came upon. */
+    private static void promise24VeryMany() {
+        int[] squares = {0, 4, 7, 13, 16, 23};
+        int[] men = {4, 4, 8, 8, 8, 8};
+        FiveShogi x = new FiveShogi();
+        Reference y = new Reference();
+        x.clearAll();
+        y.clearAll();
+        for (int i = 0; i < squares.length; i++) {
+            x.put(squares[i], men[i]);
+            y.put(squares[i], men[i]);
+        }
+        for (int kind = 1; kind <= 5; kind++) {
+            x.setHand(0, kind, 1);
+            y.setHand(0, kind, 1);
+        }
+        Due.due("total(7)", x.total(7), 160);
+        for (int rank = 0; rank <= 160; rank++) {
+            Due.due("playAt(" + rank + ")", x.playAt(rank), y.playAt(rank));
+        }
+        Due.due("playAt(160)", x.playAt(160), NONE);
     }
 
     /** "OUT_OF_RANGE if rank is negative": just below 0, and far below. */

@@ -24,6 +24,7 @@ public final class TermsPlaysTest {
         lostAndMated();
         lostForTheOnlyDropWouldMate();
         pawnsMayNotMate();
+        pawnsMayNotMateFromTheCorners();
         pawnsMayNotMateWithRepliesByDrops();
         numbersOfPlays();
         numbersThatTellNothing();
@@ -472,6 +473,28 @@ public final class TermsPlaysTest {
         FiveShogi x = Setup.of("k . . . . . . . . . . R . . . . . . . . . . . . .", 0, "P");
         Due.due("no play without a check is no mate", x.drop(5, 10), 0);
         ends(x, 0, 0);
+    }
+
+    /** "A pawn may not be dropped if the other side would be mated by that": on the first and the last square. */
+    private static void pawnsMayNotMateFromTheCorners() {
+        int[] corners = {0, 4, 20, 24};
+        for (int corner : corners) {
+            int side = corner < 5 ? 1 : 0;
+            int inward = side == 1 ? 5 : -5;
+            int aside = corner % 5 == 0 ? 1 : -1;
+            FiveShogi x = empty(side);
+            x.setHand(side, 5, 1);
+            x.put(corner + inward, 10 * (1 - side));
+            x.put(corner + 3 * aside, 10 * side + 4);
+            x.put(corner + aside + 4 * inward, 10 * side + 4);
+            x.put(corner + 4 * aside + 2 * inward, 10 * side + 4);
+            Due.due("a mate from " + corner, x.dropReason(5, corner), 6);
+            Due.due("drops(5) with " + corner, x.drops(5) >> corner & 1, 0);
+            Due.due("make()", x.make(20500 + corner), NOT_POSSIBLE);
+            x.takeOff(corner + 4 * aside + 2 * inward);
+            Due.due("no mate from " + corner, x.dropReason(5, corner), 0);
+            Due.due("make()", x.make(20500 + corner), 1);
+        }
     }
 
     /** "(For this the other side's own drops of pawns are looked at without this rule.)" */
