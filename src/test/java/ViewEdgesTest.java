@@ -26,6 +26,7 @@ public final class ViewEdgesTest {
         promise20HistoryAndText();
         promise21Unknown();
         promise21BothSides();
+        promise21AsLowAsTheErrors();
         askingChangesNothing();
         Due.end();
     }
@@ -358,6 +359,25 @@ public final class ViewEdgesTest {
             Due.due("a second king", answer < 0 ? 1 : 0, isSecondKing ? 1 : 0);
             Due.due("worth(0)", x.worth(0), worth);
             Due.due("worth(1)", x.worth(1), -worth);
+        }
+    }
+
+    /** "Returns the worth": also of a hand with ninety rooks and more, where its number is an error's elsewhere. */
+    private static void promise21AsLowAsTheErrors() {
+        FiveShogi x = new FiveShogi();
+        x.clearAll();
+        x.put(12, 4);
+        x.put(20, 5);
+        for (int taken = 1; taken <= 95; taken++) {
+            int from = taken % 2 == 1 ? 12 : 13;
+            x.put(25 - from, 18);
+            Due.due("move()", x.move(from, 25 - from, false), 18);
+            x.setSide(0);
+            if (taken >= 90) {
+                Due.due("hand(0, 4)", x.hand(0, 4), taken);
+                Due.due("worth(0)", x.worth(0), 11 + 11 * taken);
+                Due.due("worth(1)", x.worth(1), -11 - 11 * taken);
+            }
         }
     }
 
